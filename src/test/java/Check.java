@@ -22,6 +22,16 @@ final class Check {
         due(what, so ? 1 : 0, 1);
     }
 
+    void same(String what, String got, String want) {
+        looked++;
+        if (!got.equals(want)) {
+            wrong++;
+            if (wrong <= 50) {
+                System.out.println(name + ": " + what + " came to [" + got + "], due is [" + want + "]");
+            }
+        }
+    }
+
     void end() {
         System.out.println(name + ": " + looked + " answers looked at, " + wrong + " wrong");
         if (wrong != 0 || looked == 0) {
